@@ -89,8 +89,9 @@ public final class TrainBearers {
     private static final int EQUAL = 13;
 
     private static final long FARTHEST = 1000000000L;
+    private static final long TOO_FAR = FARTHEST + 1;
     // Below every sum that is not broken, so that one number can tell both.
-    private static final int BROKEN = Integer.MIN_VALUE;
+    private static final int BROKEN = -2000000000;
 
     private Train now = new Train();
     // Where walks on paper and orders that may still fail are tried.
@@ -101,10 +102,8 @@ public final class TrainBearers {
     private Steps steps = new Steps();
     private Steps paperSteps = new Steps();
     private final Reader reader = new Reader();
-    private final Text scratchText = new Text();
-    private final Sums sums = new Sums();
-    private final Rules rules = new Rules(sums);
-    private final Deeds deeds = new Deeds(rules, sums);
+    private final Rules rules = new Rules();
+    private final Deeds deeds = new Deeds();
     private final Bearing bearing = new Bearing();
     private final Guess guess = new Guess();
     private final Ways ways = new Ways();
@@ -262,26 +261,26 @@ public final class TrainBearers {
             reader.size = 0;
             return refuse(NO_ROOM);
         }
-        boolean fine = reader.readText(scratchText, true);
+        boolean fine = reader.readText(true);
         reader.size = 0;
         if (!fine) {
             return refuse(BAD_TEXT);
         }
-        now.lawTexts[now.laws] = new Text(scratchText);
+        now.lawTexts[now.laws] = new Text(reader.text);
         now.laws++;
         return accept(now.laws - 1);
     }
 
     public int orders() {
         deeds.stopped = NONE;
-        boolean fine = reader.readText(scratchText, false);
+        boolean fine = reader.readText(false);
         reader.size = 0;
         if (!fine) {
             return refuse(BAD_TEXT);
         }
         paper.copyFrom(now);
         paperSteps.copyFrom(steps);
-        int done = deeds.runText(scratchText, paper, paperSteps);
+        int done = deeds.runText(reader.text, paper, paperSteps);
         if (done < 0) {
             return refuse(done);
         }
@@ -703,7 +702,9 @@ public final class TrainBearers {
             System.arraycopy(other.sightYard, 0, sightYard, 0, SIGHTS);
             System.arraycopy(other.sightDip, 0, sightDip, 0, SIGHTS);
             System.arraycopy(other.terms, 0, terms, 0, terms.length);
-            System.arraycopy(other.lawTexts, 0, lawTexts, 0, LAWS);
+            for (int i = 0; i < LAWS; i++) {
+                lawTexts[i] = other.lawTexts[i];
+            }
         }
 
         boolean hasYard(int yard) {
@@ -754,56 +755,25 @@ public final class TrainBearers {
         }
     }
 
-    /** What stood ahead of one deed; nothing but deeds changes this without ending what can be undone. */
-    private static final class Step {
-        private final int[] mud = new int[MOST];
-        private final int[] tired = new int[MOST];
-        private final int[] holds = new int[MOST];
-        private int place;
-        private int fate;
-        private int hour;
-        int kind;
-
-        void keepOf(Train train, int deed) {
-            System.arraycopy(train.mud, 0, mud, 0, MOST);
-            System.arraycopy(train.tired, 0, tired, 0, MOST);
-            System.arraycopy(train.holds, 0, holds, 0, MOST);
-            place = train.place;
-            fate = train.fate;
-            hour = train.terms[HOUR];
-            kind = deed;
-        }
-
-        void putBack(Train train) {
-            System.arraycopy(mud, 0, train.mud, 0, MOST);
-            System.arraycopy(tired, 0, train.tired, 0, MOST);
-            System.arraycopy(holds, 0, train.holds, 0, MOST);
-            train.place = place;
-            train.fate = fate;
-            train.terms[HOUR] = hour;
-        }
-
-        void copyFrom(Step other) {
-            System.arraycopy(other.mud, 0, mud, 0, MOST);
-            System.arraycopy(other.tired, 0, tired, 0, MOST);
-            System.arraycopy(other.holds, 0, holds, 0, MOST);
-            place = other.place;
-            fate = other.fate;
-            hour = other.hour;
-            kind = other.kind;
-        }
-    }
-
-    /** The latest deeds, in a ring: a new one takes the oldest one's slot. */
+    /**
+     * What stood ahead of each of the latest deeds, in a ring of rows: a new one takes the oldest
+     * one's. A row has only what deeds change, as other calls that change it end what can be undone.
+     */
     private static final class Steps {
-        private final Step[] ring = new Step[UNDOS];
+        private static final int MUD = 0;
+        private static final int TIRED = MUD + MOST;
+        private static final int HOLDS = TIRED + MOST;
+        private static final int PLACE = HOLDS + MOST;
+        private static final int FATE = PLACE + 1;
+        private static final int HOUR_WAS = FATE + 1;
+        private static final int KIND = HOUR_WAS + 1;
+        private static final int WIDTH = KIND + 1;
+
+        private final int[] rows = new int[UNDOS * WIDTH];
         private int first;
         int size;
 
         Steps() {
-            for (int i = 0; i < UNDOS; i++) {
-                ring[i] = new Step();
-            }
         }
 
         void clear() {
@@ -811,7 +781,14 @@ public final class TrainBearers {
         }
 
         void keep(Train train, int kind) {
-            ring[(first + size) % UNDOS].keepOf(train, kind);
+            int row = (first + size) % UNDOS * WIDTH;
+            System.arraycopy(train.mud, 0, rows, row + MUD, MOST);
+            System.arraycopy(train.tired, 0, rows, row + TIRED, MOST);
+            System.arraycopy(train.holds, 0, rows, row + HOLDS, MOST);
+            rows[row + PLACE] = train.place;
+            rows[row + FATE] = train.fate;
+            rows[row + HOUR_WAS] = train.terms[HOUR];
+            rows[row + KIND] = kind;
             if (size < UNDOS) {
                 size++;
             } else {
@@ -819,22 +796,26 @@ public final class TrainBearers {
             }
         }
 
+        /** The kind of the deed that is undone. */
         int takeBack(Train train) {
             if (size == 0) {
                 return CANNOT;
             }
             size--;
-            Step latest = ring[(first + size) % UNDOS];
-            latest.putBack(train);
-            return latest.kind;
+            int row = (first + size) % UNDOS * WIDTH;
+            System.arraycopy(rows, row + MUD, train.mud, 0, MOST);
+            System.arraycopy(rows, row + TIRED, train.tired, 0, MOST);
+            System.arraycopy(rows, row + HOLDS, train.holds, 0, MOST);
+            train.place = rows[row + PLACE];
+            train.fate = rows[row + FATE];
+            train.terms[HOUR] = rows[row + HOUR_WAS];
+            return rows[row + KIND];
         }
 
         void copyFrom(Steps other) {
             first = other.first;
             size = other.size;
-            for (int i = 0; i < UNDOS; i++) {
-                ring[i].copyFrom(other.ring[i]);
-            }
+            System.arraycopy(other.rows, 0, rows, 0, rows.length);
         }
     }
 
@@ -890,7 +871,15 @@ public final class TrainBearers {
             }
         }
 
-        /** An and, an or goes on behind all that it may skip. */
+        /** An order's dip of a yard, or tired of a girl. */
+        void emitOf(boolean dip, int number) {
+            if (dip) {
+                dips |= 1 << number;
+            }
+            emit(WORD, (dip ? WORD_DIP : WORD_TIRED) + number);
+        }
+
+        /** An "and", an "or" goes on behind all that it may skip. */
         void aim(int skip) {
             if (skip >= 0 && skip < length) {
                 operands[skip] = length;
@@ -919,6 +908,12 @@ public final class TrainBearers {
         private static final int MOST_NUMBER = 1000;
         private static final int MOST_TIMES = 20;
 
+        // The ranks of operators, the weakest first: each is a chain of what the next one reads.
+        private static final int TEST = 0;
+        private static final int BOTH = 1;
+        private static final int SUM = 2;
+        private static final int TERM = 3;
+
         final int[] tape = new int[TAPE];
         int size;
         int fault = NONE;
@@ -926,7 +921,8 @@ public final class TrainBearers {
         private int stop;
         private int parts;
         private boolean laws;
-        private Text text;
+        // What was read last; a law is a copy of it.
+        final Text text = new Text();
 
         Reader() {
         }
@@ -938,78 +934,64 @@ public final class TrainBearers {
             }
         }
 
-        boolean readText(Text into, boolean asLaw) {
-            text = into;
+        boolean readText(boolean asLaw) {
             text.clear();
             laws = asLaw;
             parts = 0;
             stop = 0;
             advance();
-            boolean fine = readClauses();
-            fault = fine ? NONE : start;
-            return fine;
-        }
-
-        private boolean readClauses() {
-            for (int c = 0; c < CLAUSES; c++) {
-                if (!(laws ? lawClause() : orderClause())) {
-                    return false;
-                }
-                if (start >= size) {
-                    return true;
-                }
-                if (!pass(";")) {
-                    return false;
-                }
+            boolean fine = true;
+            boolean ended = false;
+            for (int c = 0; c < CLAUSES && fine && !ended; c++) {
+                fine = (laws ? lawClause(c) : orderClause(c)) && condition(c);
+                ended = fine && start >= size;
+                fine = fine && (ended || pass(";"));
             }
-            return false;
+            fault = ended ? NONE : start;
+            return ended;
         }
 
-        private boolean lawClause() {
+        private boolean lawClause(int clause) {
             int kind = wordHere(LAW_KINDS);
             if (kind == NONE) {
                 return false;
             }
-            int clause = text.clauses;
             text.addClause(kind);
             advance();
-            if (kind != BARS) {
-                text.first[clause] = text.length;
-                if (!wholeSum()) {
-                    return false;
-                }
-            }
-            return ifTest(clause);
+            return kind == BARS || firstSum(clause);
         }
 
-        private boolean orderClause() {
+        private boolean orderClause(int clause) {
             int kind = wordHere(ORDER_KINDS);
             if (kind == NONE) {
                 return false;
             }
-            int clause = text.clauses;
             text.addClause(kind);
             advance();
-            if (kind != REST) {
-                text.first[clause] = text.length;
-                if (!wholeSum()) {
-                    return false;
-                }
+            if (kind != REST && !firstSum(clause)) {
+                return false;
             }
-            if (kind == HOLD) {
-                text.second[clause] = text.length;
-                if (!pass("at") || !wholeSum()) {
-                    return false;
-                }
-            }
-            return timesNumber(clause) && ifTest(clause);
+            return (kind != HOLD || secondSum(clause)) && repetition(clause);
         }
 
-        private boolean timesNumber(int clause) {
-            if (!isHere("times")) {
+        private boolean firstSum(int clause) {
+            text.first[clause] = text.length;
+            boolean fine = chain(SUM, 0);
+            text.emit(STOP, 0);
+            return fine;
+        }
+
+        private boolean secondSum(int clause) {
+            text.second[clause] = text.length;
+            boolean fine = pass("at") && chain(SUM, 0);
+            text.emit(STOP, 0);
+            return fine;
+        }
+
+        private boolean repetition(int clause) {
+            if (!pass("times")) {
                 return true;
             }
-            advance();
             int times = numberHere();
             if (times < 1 || times > MOST_TIMES) {
                 return false;
@@ -1019,118 +1001,90 @@ public final class TrainBearers {
             return true;
         }
 
-        private boolean ifTest(int clause) {
-            if (!isHere("if")) {
+        private boolean condition(int clause) {
+            if (!pass("if")) {
                 return true;
             }
-            advance();
             text.test[clause] = text.length;
-            boolean fine = test(0);
+            boolean fine = chain(TEST, 0);
             text.emit(STOP, 0);
             return fine;
         }
 
-        private boolean wholeSum() {
-            boolean fine = sum(0);
-            text.emit(STOP, 0);
-            return fine;
+        private boolean chain(int rank, int depth) {
+            // What stands behind an "or", an "and" may have to be skipped, so these come ahead of it.
+            boolean skips = rank == TEST || rank == BOTH;
+            int operation = NONE;
+            int skip = NONE;
+            for (int i = 0; i < TAPE; i++) {
+                boolean fine = rank == BOTH ? plain(depth)
+                    : rank == TERM ? part(depth) : chain(rank + 1, depth);
+                if (skips) {
+                    text.aim(skip);
+                } else if (operation != NONE) {
+                    text.emit(operation, 0);
+                }
+                operation = operatorHere(rank);
+                if (!fine || operation == NONE) {
+                    return fine;
+                }
+                skip = text.length;
+                if (skips) {
+                    text.emit(operation, 0);
+                }
+                advance();
+            }
+            return false;
         }
 
-        private boolean test(int depth) {
-            boolean fine = both(depth);
-            for (int i = 0; i < TAPE && fine && isHere("or"); i++) {
-                int skip = text.length;
-                text.emit(OR, 0);
-                advance();
-                fine = both(depth);
-                text.aim(skip);
+        private int operatorHere(int rank) {
+            switch (rank) {
+                case TEST:
+                    return isHere("or") ? OR : NONE;
+                case BOTH:
+                    return isHere("and") ? AND : NONE;
+                case SUM:
+                    return isHere("+") ? ADD : isHere("-") ? SUBTRACT : NONE;
+                default:
+                    return isHere("*") ? MULTIPLY : isHere("/") ? DIVIDE : isHere("%") ? REMAIN : NONE;
             }
-            return fine;
-        }
-
-        private boolean both(int depth) {
-            boolean fine = plain(depth);
-            for (int i = 0; i < TAPE && fine && isHere("and"); i++) {
-                int skip = text.length;
-                text.emit(AND, 0);
-                advance();
-                fine = plain(depth);
-                text.aim(skip);
-            }
-            return fine;
         }
 
         private boolean plain(int depth) {
             boolean turned = false;
-            // Counted, not nested: nothing limits how many stand in a row but the tape.
-            for (int i = 0; i < TAPE && isHere("not"); i++) {
+            // Counted, not nested: nothing but the tape limits how many stand in a row.
+            for (int i = 0; i < TAPE && pass("not"); i++) {
                 turned = !turned;
-                advance();
             }
-            boolean fine = isHere("(") ? enclosedTest(depth) : comparison(depth);
+            boolean fine;
+            if (isHere("(")) {
+                fine = open(depth) && chain(TEST, depth + 1) && pass(")");
+            } else {
+                fine = chain(SUM, depth);
+                int operation = isHere("<") ? LESS : isHere(">") ? MORE : EQUAL;
+                fine = fine && (pass("<") || pass(">") || pass("=")) && chain(SUM, depth);
+                text.emit(operation, 0);
+            }
             if (turned) {
                 text.emit(NOT, 0);
             }
             return fine;
         }
 
-        private boolean enclosedTest(int depth) {
-            if (depth >= BRACKETS) {
-                return false;
-            }
-            advance();
-            return test(depth + 1) && pass(")");
-        }
-
-        private boolean comparison(int depth) {
-            if (!sum(depth)) {
-                return false;
-            }
-            int operation = isHere("<") ? LESS : isHere(">") ? MORE : isHere("=") ? EQUAL : NONE;
-            if (operation == NONE) {
-                return false;
-            }
-            advance();
-            boolean fine = sum(depth);
-            text.emit(operation, 0);
-            return fine;
-        }
-
-        private boolean sum(int depth) {
-            boolean fine = term(depth);
-            for (int i = 0; i < TAPE && fine && (isHere("+") || isHere("-")); i++) {
-                int operation = isHere("+") ? ADD : SUBTRACT;
-                advance();
-                fine = term(depth);
-                text.emit(operation, 0);
-            }
-            return fine;
-        }
-
-        private boolean term(int depth) {
-            boolean fine = part(depth);
-            for (int i = 0; i < TAPE && fine; i++) {
-                int operation =
-                    isHere("*") ? MULTIPLY : isHere("/") ? DIVIDE : isHere("%") ? REMAIN : NONE;
-                if (operation == NONE) {
-                    return true;
-                }
-                advance();
-                fine = part(depth);
-                text.emit(operation, 0);
-            }
-            return fine;
-        }
-
         private boolean part(int depth) {
-            if (!isHere("[")) {
-                return numberOrWord();
+            if (isHere("[")) {
+                return open(depth) && chain(SUM, depth + 1) && pass("]");
             }
+            return numberOrWord();
+        }
+
+        /** Past a bracket of either kind, if it is not within too many. */
+        private boolean open(int depth) {
             if (depth >= BRACKETS) {
                 return false;
             }
             advance();
-            return sum(depth + 1) && pass("]");
+            return true;
         }
 
         private boolean numberOrWord() {
@@ -1143,26 +1097,16 @@ public final class TrainBearers {
             advance();
             if (number != NONE) {
                 text.emit(NUMBER, number);
-                return true;
-            }
-            if (laws || word < WORD_DIP) {
+            } else if (laws || word < WORD_DIP) {
                 text.emit(WORD, word);
-                return true;
+            } else {
+                int whose = numberHere();
+                if (whose < 0 || whose >= MOST) {
+                    return false;
+                }
+                text.emitOf(word == WORD_DIP, whose);
+                advance();
             }
-            return whose(word == WORD_DIP);
-        }
-
-        /** The number behind an order's dip, tired. */
-        private boolean whose(boolean dip) {
-            int number = numberHere();
-            if (number < 0 || number >= MOST) {
-                return false;
-            }
-            if (dip) {
-                text.dips |= 1 << number;
-            }
-            text.emit(WORD, (dip ? WORD_DIP : WORD_TIRED) + number);
-            advance();
             return true;
         }
 
@@ -1172,22 +1116,18 @@ public final class TrainBearers {
                 start++;
             }
             stop = start;
-            if (start >= size) {
-                return;
-            }
-            stop++;
-            int kind = kindOf(tape[start]);
-            while (kind != 0 && stop < size && kindOf(tape[stop]) == kind) {
+            while (stop < size && tape[stop] >= 'a' && tape[stop] <= 'z') {
                 stop++;
             }
-        }
-
-        /** 1 a letter, 2 a digit, 0 a byte that stands alone. */
-        private static int kindOf(int sign) {
-            if (sign >= 'a' && sign <= 'z') {
-                return 1;
+            if (stop > start) {
+                return;
             }
-            return sign >= '0' && sign <= '9' ? 2 : 0;
+            while (stop < size && tape[stop] >= '0' && tape[stop] <= '9') {
+                stop++;
+            }
+            if (stop == start && start < size) {
+                stop++;
+            }
         }
 
         private boolean pass(String word) {
@@ -1231,14 +1171,14 @@ public final class TrainBearers {
             return NONE;
         }
 
-        /** The token's number, or one above all that can be; NONE if it is none. */
+        /** The token's number, or some number above all that can be; NONE if it is none. */
         private int numberHere() {
-            if (start >= stop || kindOf(tape[start]) != 2) {
+            if (start >= stop || tape[start] < '0' || tape[start] > '9') {
                 return NONE;
             }
             int number = 0;
-            for (int i = start; i < stop; i++) {
-                number = Math.min(MOST_NUMBER + 1, number * 10 + tape[i] - '0');
+            for (int i = start; i < stop && number <= MOST_NUMBER; i++) {
+                number = number * 10 + tape[i] - '0';
             }
             return number;
         }
@@ -1258,7 +1198,8 @@ public final class TrainBearers {
                 int operation = text.operations[i];
                 int operand = text.operands[i];
                 if (operation == NUMBER || operation == WORD) {
-                    if (top >= stack.length || operation == WORD && (operand < 0 || operand >= words.length)) {
+                    boolean slot = operand >= 0 && operand < words.length;
+                    if (top >= stack.length || operation == WORD && !slot) {
                         return BROKEN;
                     }
                     stack[top] = operation == NUMBER ? operand : words[operand];
@@ -1272,11 +1213,7 @@ public final class TrainBearers {
                         top--;
                     }
                 } else if (top > 1) {
-                    long right = stack[top - 1];
-                    if (right == 0 && (operation == DIVIDE || operation == REMAIN)) {
-                        return BROKEN;
-                    }
-                    long told = combined(operation, stack[top - 2], right);
+                    long told = combined(operation, stack[top - 2], stack[top - 1]);
                     if (told > FARTHEST || told < -FARTHEST) {
                         return BROKEN;
                     }
@@ -1296,9 +1233,9 @@ public final class TrainBearers {
                 case MULTIPLY:
                     return left * right;
                 case DIVIDE:
-                    return right == 0 ? 0 : left / right;
+                    return right == 0 ? TOO_FAR : left / right;
                 case REMAIN:
-                    return right == 0 ? 0 : left % right;
+                    return right == 0 ? TOO_FAR : left % right;
                 case LESS:
                     return left < right ? 1 : 0;
                 case MORE:
@@ -1311,11 +1248,10 @@ public final class TrainBearers {
 
     /** What the law in force tells of a train; what is told without one, else. */
     private static final class Rules {
-        private final Sums sums;
+        private final Sums sums = new Sums();
         private final int[] words = new int[LAW_WORD_COUNT];
 
-        Rules(Sums sums) {
-            this.sums = sums;
+        Rules() {
         }
 
         int lifts(Train train, int girl, int yard) {
@@ -1405,16 +1341,14 @@ public final class TrainBearers {
 
     /** What is done with a train, by calls, by orders and on paper. */
     private static final class Deeds {
-        private final Rules rules;
-        private final Sums sums;
+        private final Rules rules = new Rules();
+        private final Sums sums = new Sums();
         private final int[] words = new int[ORDER_WORD_COUNT];
         private final int[] tiring = new int[MOST];
         private final int[] dips = new int[MOST];
         int stopped = NONE;
 
-        Deeds(Rules rules, Sums sums) {
-            this.rules = rules;
-            this.sums = sums;
+        Deeds() {
         }
 
         int takeHold(Train train, Steps steps, int girl, int yard) {
@@ -1761,7 +1695,7 @@ public final class TrainBearers {
         }
 
         int stilesFrom(int place) {
-            return cost[place] / PER_STILE;
+            return isPlace(place) ? cost[place] / PER_STILE : NONE;
         }
 
         /** The lowest place that a best way comes to next; NONE at its end. */
