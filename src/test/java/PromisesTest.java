@@ -421,6 +421,19 @@ public final class PromisesTest {
         due("16: 50 parts", Checks.orders(x, fifty), 0);
         due("16: 51 parts", Checks.orders(x, fifty + "+dip 1"), -6);
         due("16: fault at the 51st", x.fault(), fifty.length() + 1);
+        due("16: 8 brackets behind at", Checks.orders(x, "hold 0 at " + "[".repeat(8) + "0" + "]".repeat(8)), -3);
+        due("16: 9 brackets behind at", Checks.orders(x, "hold 0 at " + "[".repeat(9) + "0" + "]".repeat(9)), -6);
+        due("16: fault at the 9th", x.fault(), 18);
+        Checks.feed(x, "lifts 1+1+1+1+1+1+1+1");
+        x.end(6);
+        due("16: what end() cut off is no part", x.law(), -6);
+        due("16: fault at the end", x.fault(), 6);
+        Checks.feed(x, "lifts 1234");
+        x.end(8);
+        due("16: nor what it cut a number in", x.law(), 0);
+        due("16: 400 bytes", Checks.law(x, "bars if 1=" + " ".repeat(389) + "1"), 1);
+        due("16: 400 bytes with the fault at the end", Checks.law(x, "bars if 1=" + " ".repeat(390)), -6);
+        due("16: which is 400", x.fault(), 400);
         due("16: no fault of what can't be", Checks.orders(x, "drop 0"), -3);
         due("16: none", x.fault(), NONE);
     }
@@ -657,6 +670,9 @@ public final class PromisesTest {
         x = made(yards(9, 9, 9, 9, 9, 9, 9, 9), 1, 2, 3, 4, 5, 6, 7, 8);
         due("24: all lift", x.borne(0), 72 - 36);
         due("24: all", x.borne(1), 8);
+        x = made(yards(18, 1), 0, 0, 0, 0, 0, 1, 9, 9);
+        due("24: the two highest", x.borne(2), 192);
+        due("24: and one more", x.borne(3), 32);
         x = made(yards(), 5);
         due("24: no yards", x.borne(0), 0);
         due("24: no yards, no girls", x.borne(1), 0);
