@@ -1306,6 +1306,7 @@ public final class TrainBearers {
             return all;
         }
 
+        // In the order of LAW_WORDS, by which the reader numbers them.
         private void fillWords(Train train, int girl, int yard, int dip, int stiles) {
             boolean isGirl = train.hasGirl(girl);
             boolean isYard = train.hasYard(yard);
