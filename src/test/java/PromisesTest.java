@@ -272,6 +272,12 @@ public final class PromisesTest {
         due("14: tires 9 at most", x.of(0, 1), 9);
         due("14: tires 0 at least", x.of(1, 1), 0);
         x = made(yards(10), 3);
+        inForce(x, "tires dip+3 if dip<0");
+        x.lane(0, 1, 9);
+        x.hold(0, 0);
+        x.walk(1);
+        due("14: dip is -1 for tires", x.of(0, 1), 2);
+        x = made(yards(10), 3);
         inForce(x, "lifts hour*2+mood");
         x.terms(0, 5);
         x.terms(2, 3);
