@@ -647,7 +647,7 @@ public final class TrainBearers {
         int best = limit;
         for (int a = 0; a < now.girls; a++) {
             for (int b = a + 1; b < now.girls; b++) {
-                if (now.holds[a] != now.holds[b]) {
+                if (now.holds[a] != now.holds[b] && mayTake(a, now.holds[b]) && mayTake(b, now.holds[a])) {
                     paper.holds[a] = now.holds[b];
                     paper.holds[b] = now.holds[a];
                     best = Math.min(best, rules.together(paper) * 100 + 10 * a + b);
@@ -657,6 +657,11 @@ public final class TrainBearers {
             }
         }
         return best < limit ? best : NONE;
+    }
+
+    /** From no yard at all none is barred, whatever a law would tell of it. */
+    private boolean mayTake(int girl, int yard) {
+        return yard == NONE || !rules.bars(now, girl, yard);
     }
 
     /** All that an image keeps. */

@@ -495,7 +495,10 @@ final class Model {
                     World w = copy();
                     w.holds.set(a, holds.get(b));
                     w.holds.set(b, holds.get(a));
-                    if (w.brings() < best[1]) {
+                    // Those who hold the same yard need no test of their own: nothing is less by it.
+                    boolean barred = w.holds.get(a) != -1 && barred(a, w.holds.get(a))
+                        || w.holds.get(b) != -1 && barred(b, w.holds.get(b));
+                    if (!barred && w.brings() < best[1]) {
                         best = new int[] {10 * a + b, w.brings()};
                     }
                 }

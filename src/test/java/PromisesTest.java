@@ -693,8 +693,7 @@ public final class PromisesTest {
         due("25: brought then", x.exchanged(1), 0);
         due("25: what 2", x.exchanged(2), NONE);
         due("25: what -1", x.exchanged(-1), NONE);
-        inForce(x, "bars if girl=1 and yard=0");
-        due("25: barred aside", x.exchanged(0), 1);
+        promise25Barred(x);
         x.force(NONE);
         x.drop(1);
         // Girl 1 at yard 0 leaves yard 1 alone.
@@ -711,6 +710,22 @@ public final class PromisesTest {
         x.hold(0, 0);
         x.hold(1, 1);
         due("25: the lowest of some", x.exchanged(0), 2);
+    }
+
+    /** Girl 0, who lifts 2, holds the yard of 9, girl 1, who lifts 9, that of 2; girl 2 none. */
+    private static void promise25Barred(TrainBearers x) {
+        inForce(x, "bars if girl=1 and yard=0");
+        due("25: the higher one barred, the next best", x.exchanged(0), 2);
+        due("25: brought by the next best", x.exchanged(1), 4);
+        inForce(x, "bars if girl=0 and yard=1");
+        due("25: the lower one barred, the next best", x.exchanged(0), 2);
+        inForce(x, "bars if yard=0");
+        due("25: all barred from the one", x.exchanged(0), NONE);
+        due("25: all barred from the one, brought", x.exchanged(1), NONE);
+        inForce(x, "bars if girl=0 and yard=0; bars if girl=1 and yard=1");
+        due("25: barred from what they hold now", x.exchanged(0), 1);
+        inForce(x, "bars if 0-yard=1; bars if girl=0");
+        due("25: she who comes to hold none is not barred", x.exchanged(0), 2);
     }
 
     private static void promises26And27Seen() {
