@@ -53,16 +53,8 @@ public final class PromisesTest {
         C.due(call, got, want);
     }
 
-    /** A train of these yards and girls. */
     private static TrainBearers made(int[] heavy, int... strong) {
-        TrainBearers x = new TrainBearers();
-        for (int h : heavy) {
-            x.yard(h);
-        }
-        for (int s : strong) {
-            x.girl(s);
-        }
-        return x;
+        return Checks.made(heavy, strong);
     }
 
     private static int[] yards(int... heavy) {
@@ -70,9 +62,7 @@ public final class PromisesTest {
     }
 
     private static void inForce(TrainBearers x, String law) {
-        int number = Checks.law(x, law);
-        C.dueTrue("law '" + law + "' is read", number >= 0);
-        x.force(number);
+        C.inForce(x, law);
     }
 
     private static void promise1NewObject() {
