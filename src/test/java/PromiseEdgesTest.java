@@ -472,10 +472,8 @@ public final class PromiseEdgesTest {
             C.due("undo() of that", x.undo(), 3);
             C.refused("no further", x, -3, x::undo);
         }
-        while (x.count(0) < 8) {
+        for (int i = 0; i < 8; i++) {
             x.yard(1);
-        }
-        while (x.count(1) < 8) {
             x.girl(1);
         }
         x.rest();

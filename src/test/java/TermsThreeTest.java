@@ -18,6 +18,8 @@ public final class TermsThreeTest {
         aRest();
         borneByTwos();
         borneOfTheFewest();
+        borneWithMud();
+        borneOfFewerYards();
         borneTheFirst();
         borneNotBarred();
         borneOfAll();
@@ -28,6 +30,9 @@ public final class TermsThreeTest {
         letGo();
         look();
         lookLowest();
+        lookOfAll();
+        lookOfThese();
+        lookOfFewerYards();
         wayOfFewestStiles();
         wayFirst();
         wayThereNow();
@@ -198,6 +203,54 @@ public final class TermsThreeTest {
         C.due("GIRLS who lift nothing are not needed", weak.borne(1), 0);
     }
 
+    private static void borneWithMud() {
+        C.under("BORNE: .. so that the DIPS BRING least together (HEAVY and MUD)");
+        TrainBearers x = Checks.made(Checks.yards(5, 5), 5, 6);
+        x.lane(0, 1, 0);
+        C.due("without MUD GIRL 0 at YARD 0", x.borne(2), 1);
+        x.hold(0, 0);
+        x.walk(1);
+        x.rest();
+        // Yard 1 alone got mud: it is for the stronger one still.
+        C.due("with MUD 0 is BROUGHT", x.borne(0), 0);
+        C.due("GIRL 1 at YARD 1", x.borne(3), 2);
+        x.drop(0);
+        x.hold(0, 1);
+        x.walk(0);
+        x.rest();
+        C.due("MUD of YARD 0", x.at(0, 1), 1);
+        C.due("MUD of YARD 1", x.at(1, 1), 2);
+        C.due("6 and 7 less 5 and 6", x.borne(0), 2);
+    }
+
+    private static void borneOfFewerYards() {
+        C.under("BORNE: .. of the YARDS there are (behind back())");
+        TrainBearers x = Checks.made(Checks.yards(5, 7), 5, 7, 9, 3);
+        x.image(0);
+        int[] was = {x.borne(0), x.borne(1), x.borne(2), x.borne(3)};
+        x.yard(20);
+        x.yard(20);
+        x.girl(9);
+        C.due("of four YARDS", x.borne(0), 52 - 33);
+        x.back(0);
+        for (int what = 0; what < was.length; what++) {
+            C.due("borne(" + what + ") of two again", x.borne(what), was[what]);
+        }
+        C.due("borne(0) of 5, 7", was[0], 0);
+        C.due("borne(1) of 5, 7", was[1], 2);
+        C.due("borne(4) of two", x.borne(4), NONE);
+        // Nobody is left over by a girl who lifts all, all are by one who lifts nothing.
+        for (int strong : new int[] {0, 9}) {
+            TrainBearers one = Checks.made(Checks.yards(9), strong);
+            one.image(0);
+            one.yard(20);
+            C.due("of 9, 20 with STRONG " + strong, one.borne(0), 29 - strong);
+            one.back(0);
+            C.due("of 9 with STRONG " + strong, one.borne(0), 9 - strong);
+            C.due("GIRLS of 9 with STRONG " + strong, one.borne(1), strong == 0 ? 0 : 1);
+        }
+    }
+
     private static void borneTheFirst() {
         C.under("the first as a row of sets of GIRLS (as bits) by YARDS");
         TrainBearers x = Checks.made(Checks.yards(9, 9), 3, 3);
@@ -327,6 +380,18 @@ public final class TermsThreeTest {
             C.due("STRONG " + strong, x.exchanged(0), then < now ? 1 : NONE);
             C.due("STRONG " + strong + ", BROUGHT", x.exchanged(1), then < now ? then : NONE);
         }
+        TrainBearers much = Checks.made(Checks.yards(4, 3, 20, 20, 20, 20, 20, 20), 3, 4);
+        much.hold(0, 0);
+        much.hold(1, 1);
+        C.due("one less of many", much.exchanged(0), 1);
+        C.due("one less of 121", much.exchanged(1), 120);
+        // The twos ahead of the best one are as they were when it is tried.
+        TrainBearers three = Checks.made(Checks.yards(9, 2, 3), 3, 2, 9);
+        three.hold(0, 2);
+        three.hold(1, 0);
+        three.hold(2, 1);
+        C.due("the last of three twos", three.exchanged(0), 12);
+        C.due("BROUGHT by it", three.exchanged(1), 0);
     }
 
     private static void exchangedLowest() {
@@ -345,6 +410,13 @@ public final class TermsThreeTest {
         z.hold(6, 0);
         C.due("the highest twos", z.exchanged(0), 67);
         C.due("BROUGHT by them", z.exchanged(1), 7);
+        TrainBearers most = Checks.made(Checks.yards(9, 9, 9, 9, 9, 9, 9, 2), 0, 0, 0, 0, 0, 0, 2, 9);
+        C.inForce(most, "brings 99");
+        most.hold(6, 6);
+        most.hold(7, 7);
+        C.due("now", most.compare(0), 693);
+        C.due("the highest twos with the most that is BROUGHT", most.exchanged(0), 67);
+        C.due("BROUGHT by the highest twos", most.exchanged(1), 594);
     }
 
     private static void exchangedBarred() {
@@ -446,6 +518,73 @@ public final class TermsThreeTest {
         C.due("six are left", all.look(1), 6);
     }
 
+    private static void lookOfAll() {
+        C.under("To LOOK at: .. of 8 GIRLS, 8 YARDS");
+        TrainBearers x = Checks.made(Checks.yards(20, 20, 20, 20, 20, 20, 20, 20), 1, 2, 3, 4, 5, 6, 7, 8);
+        for (int g = 0; g < 8; g++) {
+            x.hold(g, g);
+        }
+        C.due("all who hold", x.letGo(), 255);
+        C.due("YARD 0", x.look(0), 0);
+        C.due("seven are left", x.look(1), 7);
+        x.seen(7, 20);
+        C.due("who held the last YARD", x.letGo(), 128);
+        x.seen(0, 20);
+        C.due("not both", x.letGo(), 0);
+        TrainBearers weak = Checks.made(Checks.yards(20, 20, 20, 20, 20, 20, 20, 20), 0, 0, 0, 0, 0, 0, 0, 0);
+        for (int g = 0; g < 8; g++) {
+            weak.hold(g, g);
+        }
+        C.due("who lift nothing: the lowest", weak.look(0), 0);
+        C.due("all eight are left", weak.look(1), 8);
+        weak.seen(7, 20);
+        C.due("all eight by what was SEEN", weak.letGo(), 255);
+    }
+
+    private static void lookOfThese() {
+        C.under("To LOOK at: the YARD of which of these (LET GO)");
+        TrainBearers x = Checks.made(Checks.yards(20, 20), 3, 3, 3, 4);
+        x.hold(0, 0);
+        x.hold(1, 1);
+        x.hold(2, 0);
+        C.due("nothing SEEN", x.letGo(), 7);
+        C.due("two of them are alike", x.look(1), 2);
+        x.seen(0, 17);
+        C.due("those of YARD 0", x.letGo(), 5);
+        C.due("both are left", x.look(1), 2);
+        x.drop(2);
+        x.hold(3, 0);
+        x.forget();
+        x.seen(1, 17);
+        // Girl 1 is none of these, so that she is not alike with any: yard 0 tells 0 from 3.
+        C.due("0 and 3", x.letGo(), 9);
+        C.due("YARD 0", x.look(0), 0);
+        C.due("one is left", x.look(1), 1);
+        x.forget();
+        x.seen(0, 13);
+        C.due("1 alone", x.letGo(), 2);
+        C.due("the lowest YARD", x.look(0), 0);
+        C.due("one of one", x.look(1), 1);
+    }
+
+    private static void lookOfFewerYards() {
+        C.under("To LOOK at: .. of the YARDS there are (behind back())");
+        TrainBearers x = Checks.made(Checks.yards(20, 20), 4, 4, 1, 2);
+        x.hold(0, 1);
+        x.hold(1, 1);
+        x.image(0);
+        x.yard(20);
+        x.hold(0, 2);
+        x.hold(1, 2);
+        x.drop(1);
+        x.hold(2, 2);
+        C.due("the third YARD", x.look(0), 2);
+        C.due("one is left", x.look(1), 1);
+        x.back(0);
+        C.due("no third YARD", x.look(0), 0);
+        C.due("two are left", x.look(1), 2);
+    }
+
     private static void wayOfFewestStiles() {
         C.under("A WAY to a PLACE: LANES with the fewest STILES together, then the fewest LANES");
         TrainBearers x = new TrainBearers();
@@ -458,6 +597,9 @@ public final class TermsThreeTest {
         }
         for (int i : new int[] {5, 6, MOST, -2, LEAST}) {
             C.due("way(5, " + i + ")", x.way(5, i), NONE);
+        }
+        for (int i = 1; i <= 8; i++) {
+            C.due("beyond a WAY of one: way(1, " + i + ")", x.way(1, i), NONE);
         }
         x.lane(0, 2, 9);
         C.due("one less", x.way(5, NONE), 36);
@@ -561,6 +703,8 @@ public final class TermsThreeTest {
         C.due("w 2 of them", one.folds(2, NONE), 1);
         C.due("no YARDS", new TrainBearers().folds(60, NONE), 0);
         C.due("no YARDS, YARD 0", new TrainBearers().folds(60, 0), NONE);
+        C.due("no YARDS, w 1", new TrainBearers().folds(1, NONE), 0);
+        C.due("no YARDS, w 0", new TrainBearers().folds(0, NONE), NONE);
         C.due("no YARDS, w 61", new TrainBearers().folds(61, NONE), NONE);
         TrainBearers late = Checks.made(Checks.yards(1, 1, 9));
         C.due("the last can't be", late.folds(8, NONE), NONE);

@@ -29,6 +29,8 @@ public final class TermsTwoTextsTest {
         dividedByNothing();
         cutTowardsNothing();
         askedOnlyIfItMatters();
+        longestChains();
+        textAfterText();
         ranksOfSigns();
         C.finish();
     }
@@ -482,6 +484,51 @@ public final class TermsTwoTextsTest {
         isSo("not (" + not + " and " + broken + ")");
         isNotSo("not (" + so + " or " + broken + ")");
         isBroken("not (" + so + " and " + broken + ")");
+        // What is skipped is skipped to its very end, be that a "not" or a bracket.
+        isSo(so + " or not " + so);
+        isNotSo(not + " and not " + not);
+        isSo(so + " or (" + not + " or not " + so + ")");
+        isNotSo(not + " and (" + so + " and not " + not + ")");
+        isSo("(" + so + " or not " + so + ") and " + so);
+        isSo(not + " and not " + not + " or " + so);
+        isSo(so + " or not (" + so + " and not " + broken + ")");
+    }
+
+    private static void longestChains() {
+        C.under("{\"or\" BOTH}, {\"and\" PLAIN}: as many as 50 PARTS let");
+        String notSo = "1=2 or ".repeat(24);
+        String so = "1=1 and ".repeat(24);
+        law("bars if " + notSo + "1=1", NONE);
+        law("bars if " + notSo + "1=1 or 1=1", 8 + 24 * 7 + 7);
+        TrainBearers x = Checks.made(Checks.yards(5), 4);
+        C.inForce(x, "bars if " + notSo + "1=1");
+        C.due("the last of 25 is so", x.asks(0, 0, 1), 1);
+        C.inForce(x, "bars if " + notSo + "1=2");
+        C.due("none of 25 is so", x.asks(0, 0, 1), 0);
+        C.inForce(x, "bars if " + so + "1=1");
+        C.due("all of 25 are so", x.asks(0, 0, 1), 1);
+        C.inForce(x, "bars if " + so + "1=2");
+        C.due("the last of 25 is not so", x.asks(0, 0, 1), 0);
+        C.due("25 in orders", Checks.orders(x, "rest if " + notSo + "1=1"), 1);
+        C.due("25 in orders, the last not so", Checks.orders(x, "rest if " + so + "1=2"), 0);
+        told("1+2*[1+2*[1+2*[1+2*[1+2*[1+2*[1+2*[1+2*[0-1]]]]]]]]", 0);
+        isSo("1+2*[1+2*[1+2*[1+2*[1+2*[1+2*[1+2*[1+2*1]]]]]]]=1+2*[1+2*[1+2*[1+2*[1+2*[1+2*[1+2*[1+2*1]]]]]]]");
+    }
+
+    private static void textAfterText() {
+        C.under("TEXTS, one after another");
+        TrainBearers x = Checks.made(Checks.yards(5), 4);
+        x.image(0);
+        for (int i = 1; i <= 120; i++) {
+            C.due("orders " + i, Checks.orders(x, "rest if hour<999 and (dip 0=5 or tired 0<9) and [1+2]*3=9"), 1);
+        }
+        C.due("the HOUR", x.count(15), 120);
+        for (int i = 1; i <= 60; i++) {
+            x.back(0);
+            C.due("law " + i, Checks.law(x, "lifts [girl+1]*" + i + "%20 if mood=0 and (mud=0 or heavy=9)"), 0);
+            x.force(0);
+            C.due("by law " + i, x.asks(0, 0, 0), i % 20);
+        }
     }
 
     private static void ranksOfSigns() {
