@@ -76,7 +76,10 @@ final class Checks {
         return counts;
     }
 
-    /** All that can be seen of an object but the tape, the fault, where orders stopped and refusals. */
+    /**
+     * All that can be seen of an object but the tape, the fault, where orders stopped and refusals.
+     * That is more than a hundred calls: the class counts none, so that the 512th needs no care here.
+     */
     static String stateOf(TrainBearers x) {
         StringBuilder all = new StringBuilder();
         for (int what = 0; what <= 17; what++) {
